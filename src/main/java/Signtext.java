@@ -603,9 +603,9 @@ public final class Signtext {
         }
 
         void become(Line other) {
-            if (other != this) {
-                empty();
-                addAll(other);
+            count = other.count;
+            for (int place = 0; place < count; place++) {
+                codes[place] = other.codes[place];
             }
         }
 
@@ -647,18 +647,16 @@ public final class Signtext {
         }
 
         private static boolean goes(int code, boolean isStripped) {
-            return isStripped ? isWhite(code) : code <= BLANK;
-        }
-
-        private static boolean isWhite(int code) {
-            return code == BLANK || code == 9 || code == 10 || code == 28;
+            if (isStripped) {
+                return code == BLANK || code == 9 || code == 10 || code == 28;
+            }
+            return code <= BLANK;
         }
 
         private static int seen(int code, boolean isLike) {
-            return isLike ? littleOf(code) : code;
-        }
-
-        private static int littleOf(int code) {
+            if (!isLike) {
+                return code;
+            }
             switch (code) {
                 case 65: return 97;
                 case 66: return 98;
@@ -768,23 +766,17 @@ public final class Signtext {
                 }
             }
             addEnd(line.size());
-            dropEmptyEnds();
+            // One piece alone comes of a text without a comma, and stays also if it is empty.
+            boolean hasComma = count > 1;
+            while (hasComma && count > 0 && beginOf(count - 1) == endOf(count - 1)) {
+                count--;
+            }
         }
 
         private void addEnd(int place) {
             if (count <= LONGEST) {
                 ends[count] = place;
                 count++;
-            }
-        }
-
-        private void dropEmptyEnds() {
-            // One piece alone comes of a text without a comma, and stays also if it is empty.
-            if (count == 1) {
-                return;
-            }
-            while (count > 0 && beginOf(count - 1) == endOf(count - 1)) {
-                count--;
             }
         }
     }

@@ -318,7 +318,7 @@ public final class AgainstStringsTest {
         int places = run % 3 == 0 ? 6 : run % 3 == 1 ? 20 : 62;
         Signtext x = new Signtext();
         House house = new House();
-        // The last call asks both digest and isSound: two calls.
+        // The last of the methods stands for two calls, and an object has but 512.
         for (int call = 0; call < CALLS / 2; call++) {
             int method = drawn(3) == 0 ? drawn(20) : drawn(METHODS);
             int[] n = new int[6];

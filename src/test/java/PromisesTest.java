@@ -33,15 +33,15 @@ public final class PromisesTest {
         }
     }
 
-    /** The call throws just that, and changes nothing. */
+    /** The call throws just that, and changes nothing; digest tells so in one call, as an object has but 512. */
     private static void refused(Signtext x, String name, Class<?> kind, Call call) {
-        String before = stateOf(x);
+        long before = x.digest();
         try {
             due(name, call.answer(), kind.getName());
         } catch (RuntimeException thrown) {
             due(name, thrown.getClass().getName(), kind.getName());
         }
-        due("what stands after " + name, stateOf(x), before);
+        due("digest after " + name, x.digest(), before);
     }
 
     private static String stateOf(Signtext x) {
@@ -69,8 +69,12 @@ public final class PromisesTest {
     private static Signtext houseOf(String... texts) {
         Signtext x = new Signtext();
         for (int text = 0; text < texts.length; text++) {
-            for (int place = 0; place < texts[text].length(); place++) {
-                x.put(text, signOf(texts[text].charAt(place)), -1, -1, -1, -1);
+            for (int place = 0; place < texts[text].length(); place += 5) {
+                int[] five = new int[5];
+                for (int step = 0; step < 5; step++) {
+                    five[step] = place + step < texts[text].length() ? signOf(texts[text].charAt(place + step)) : -1;
+                }
+                x.put(text, five[0], five[1], five[2], five[3], five[4]);
             }
         }
         return x;
