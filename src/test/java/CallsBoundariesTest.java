@@ -518,7 +518,7 @@ public final class CallsBoundariesTest {
             String digits = Long.toString(number);
             String most = many("b", 60 - digits.length());
             Home.of(most).makes(0, most + digits, "great", 0, (int) (number >> 32), (int) number);
-            Home home = Home.of("", "", most + "b");
+            Home home = Home.of("c", "", most + "b");
             home.refuses(STATE, "great", 2, (int) (number >> 32), (int) number);
         }
         Home.of(A60).refuses(STATE, "great", 0, 0, 0);
@@ -624,7 +624,7 @@ public final class CallsBoundariesTest {
             String most = many("b", 60 - KNOWN[known].length());
             Home.of(most).makes(0, most + KNOWN[known], "known", 0, known);
             if (known > 0) {
-                Home home = Home.of("", most + "b", A60);
+                Home home = Home.of("c", most + "b", A60);
                 home.refuses(STATE, "known", 1, known);
                 home.refuses(STATE, "known", 2, known);
             }
@@ -1168,7 +1168,7 @@ public final class CallsBoundariesTest {
     }
 
     private static void standsNotBelow0OrAboveEnd() {
-        Home home = Home.of("aba", "", A59 + "b");
+        Home home = Home.of("aba", "", A59 + "b", A60);
         home.tells(true, "stands", 0, 0, 1, false);
         home.tells(true, "stands", 0, 2, 1, false);
         home.tells(true, "stands", 0, 3, 0, false);
@@ -1176,6 +1176,8 @@ public final class CallsBoundariesTest {
         home.tells(true, "stands", 1, 0, 0, true);
         home.tells(true, "stands", 2, 58, 2, false);
         home.tells(false, "stands", 2, 59, 2, false);
+        home.tells(true, "stands", 3, 59, 1, false);
+        home.tells(false, "stands", 3, 59, 2, false);
         home.tells(true, "stands", 2, 60, 0, false);
         home.tells(false, "stands", 2, 61, 0, false);
         for (int place : new int[] {-1, -2, 4, 61, MIN, MAX}) {
@@ -1562,20 +1564,31 @@ public final class CallsBoundariesTest {
         new Home().knocks();
     }
 
-    private static void digestAtFirst() {
-        // Reckoned by hand: five of the house, then each text and each pair of empty ones, then 1.
+    private static void digestFrom6173() {
+        // With nothing but knocks in the house; some of these numbers are below 0.
+        for (int knocks = 0; knocks < 20; knocks++) {
+            Home home = new Home();
+            home.knocksUnasked(knocks);
+            home.tells(digestOfEmptyTexts(knocks), "digest");
+        }
+    }
+
+    private static long digestOfEmptyTexts(int knocks) {
         long sum = 6173;
-        int[] house = {0, 0, 0, 4, 0};
-        for (int value : house) {
+        for (int value : new int[] {0, 0, 0, 4, knocks}) {
             sum = sum * 31 + value;
         }
         for (int text = 0; text < 4; text++) {
-            sum = ((sum * 31 * 31) * 31 + 1) * 31 * 31;
+            for (int value : new int[] {0, 0, 1, 0, 0}) {
+                sum = sum * 31 + value;
+            }
         }
         for (int pair = 0; pair < 16; pair++) {
-            sum = sum * 31 * 31 * 31 * 31 * 31 + 1;
+            for (int value : new int[] {0, 0, 0, 0, 1}) {
+                sum = sum * 31 + value;
+            }
         }
-        new Home().tells(sum * 31 + 1, "digest");
+        return sum * 31 + 1;
     }
 
     private static void makingCalls(Sentences s) {
@@ -1761,7 +1774,7 @@ public final class CallsBoundariesTest {
         s.test("Returns whether all of this is so", CallsBoundariesTest::soundWhateverStands);
         s.chapter("Promise 45");
         s.test("A number d starts with 6173; then d becomes d * 31 + v, which wraps around as a 64-bit integer",
-            CallsBoundariesTest::digestAtFirst);
+            CallsBoundariesTest::digestFrom6173);
         s.test("Returns d.", CallsBoundariesTest::digestOfAll);
     }
 

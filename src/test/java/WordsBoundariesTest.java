@@ -548,6 +548,16 @@ public final class WordsBoundariesTest {
         home.tells(true, "isIn", 3, 2);
         home.tells(false, "begins", 0, 2, false);
         home.tells(true, "begins", 0, 2, true);
+        Home ends = Home.of("xa", "ab", "a");
+        ends.tells(false, "stands", 0, 1, 2, false);
+        ends.tells(false, "stands", 0, 1, 2, true);
+        ends.tells(true, "stands", 0, 1, 1, false);
+        ends.tells(NONE, "firstOf", 0, 1);
+        ends.tells(NONE, "lastOf", 0, 1);
+        ends.tells(false, "isIn", 0, 1);
+        ends.tells(1, "lastOf", 0, 2);
+        ends.tells(false, "begins", 0, 2, true);
+        ends.tells(false, "begins", 2, 2, false);
     }
 
     private static void emptyTextStandsEverywhere() {
